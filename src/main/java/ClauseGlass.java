@@ -338,18 +338,13 @@ public final class ClauseGlass {
         private Sheet(Sorts itsSorts, Patterns itsPatterns, int mostRows, int mostPlaces) {
             sorts = itsSorts;
             patterns = itsPatterns;
-            sort = INTS;
-            rowCount = 0;
-            placeCount = 1;
-            size = 0;
             asked = new long[mostRows];
             asks = new int[mostRows][mostPlaces];
             placeSort = new int[mostPlaces];
             placeAbove = new int[mostPlaces];
             conAbove = new int[mostPlaces];
             partAbove = new int[mostPlaces];
-            placeSort[0] = INTS;
-            placeAbove[0] = -1;
+            clear(INTS);
         }
 
         private void clear(int s) {
@@ -386,6 +381,7 @@ public final class ClauseGlass {
             }
         }
 
+        // Each place is asked for by a row, and what rows ask in all is limited: so are the places.
         private int placeBelow(int above, int c, int part) {
             for (int place = 1; place < placeCount; place++) {
                 if (placeAbove[place] == above && conAbove[place] == c && partAbove[place] == part) {
