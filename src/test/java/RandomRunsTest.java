@@ -1,5 +1,4 @@
 import java.util.ArrayList;
-import java.util.Arrays;
 import java.util.Collections;
 import java.util.List;
 import java.util.Random;
@@ -172,8 +171,8 @@ final class RandomRunsTest {
         }
         calls++;
         String want = Check.answer(() -> callPlain(name, a));
-        String got = Check.answer(() -> callClass(name, a));
-        Check.due("seed " + seed + ", call " + calls + ": " + name + Arrays.toString(a), got, want);
+        FaceCall call = new FaceCall(name, a);
+        Check.due("seed " + seed + ", call " + calls + ": " + call, call.answerOf(x), want);
         return want.startsWith("throws.") ? -1 : Long.parseLong(want);
     }
 
@@ -192,24 +191,6 @@ final class RandomRunsTest {
             case "meets": return plain.meets(a[0], a[1]) ? 1 : 0;
             case "lives": return plain.lives(a[0]) ? 1 : 0;
             default: return plain.count(a[0]);
-        }
-    }
-
-    private long callClass(String name, int[] a) {
-        switch (name) {
-            case "sort": return x.sort();
-            case "con": return x.con(a[0], a[1], a[2], a[3]);
-            case "any": return x.any(a[0]);
-            case "number": return x.number(a[0]);
-            case "made": return x.made(a[0], a[1], a[2]);
-            case "begin": x.begin(a[0]); return 0;
-            case "clause": return x.clause(a[0]) ? 1 : 0;
-            case "takes": return x.takes(a[0]) ? 1 : 0;
-            case "open": return x.open() ? 1 : 0;
-            case "covers": return x.covers(a[0], a[1]) ? 1 : 0;
-            case "meets": return x.meets(a[0], a[1]) ? 1 : 0;
-            case "lives": return x.lives(a[0]) ? 1 : 0;
-            default: return x.count(a[0]);
         }
     }
 
