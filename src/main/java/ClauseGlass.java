@@ -214,10 +214,10 @@ public final class ClauseGlass {
             return consOf[s] & livingCons;
         }
 
+        // It has no CON and is no PART yet: what lives is what lived before.
         private int addSort() {
             int s = sortCount;
             sortCount++;
-            findLiving();
             return s;
         }
 

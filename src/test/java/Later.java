@@ -26,6 +26,7 @@ final class Later {
         ask();
         askPairs();
         addClauses();
+        fillClausesWith(count(2) - 1);
         List<Integer> anys = addAnys();
         List<Integer> mades = addMades(anys);
         beginEachSort(anys, mades);
@@ -65,6 +66,17 @@ final class Later {
         }
         call("open");
         call("count", 4);
+    }
+
+    /** The same PATTERN again and again shows how much it counts. */
+    private void fillClausesWith(int p) {
+        int n = count(0);
+        for (int s = 0; s < n; s++) {
+            call("begin", s);
+            for (int k = 0; k <= 8 && call("clause", p) >= 0; k++) {
+                call("count", 3);
+            }
+        }
     }
 
     private List<Integer> addAnys() {

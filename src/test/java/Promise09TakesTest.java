@@ -67,6 +67,28 @@ final class Promise09TakesTest {
     }
 
     @Sentence("Whether there's a VALUE that CLAUSE k takes")
+    static void thoseBeforeItTakeAllOfItTogether() {
+        Run run = new Run();
+        run.sorts(2);
+        int no = run.get("made", run.get("con", 1, 0, 0, 0), -1, -1);
+        int yes = run.get("made", run.get("con", 1, 0, 0, 0), -1, -1);
+        int any = run.get("any", 1);
+        int pair = run.get("con", 2, 2, 1, 1);
+        run.get("begin", 2);
+        run.get("clause", run.get("made", pair, no, any));
+        run.get("clause", run.get("made", pair, any, no));
+        run.get("clause", run.get("any", 2));
+        run.yes("takes", 2);
+        run.get("begin", 2);
+        run.get("clause", run.get("made", pair, no, any));
+        run.get("clause", run.get("made", pair, any, no));
+        run.get("clause", run.get("made", pair, any, yes));
+        run.get("clause", run.get("any", 2));
+        run.yes("takes", 2);
+        run.no("takes", 3);
+    }
+
+    @Sentence("Whether there's a VALUE that CLAUSE k takes")
     static void oneMoreConChangesTheAnswer() {
         Run run = new Run();
         run.get("sort");
