@@ -543,8 +543,8 @@ final class TermsTest {
             new FaceCall("clause", 0), new FaceCall("clause", 2), new FaceCall("count", 4), new FaceCall("begin", 1),
             new FaceCall("clause", 5), new FaceCall("clause", 4), new FaceCall("open"), new FaceCall("clause", 1),
             new FaceCall("open"), new FaceCall("takes", 1), new FaceCall("count", 4), new FaceCall("covers", 1, 5),
-            new FaceCall("meets", 4, 5), new FaceCall("sort"), new FaceCall("lives", 2), new FaceCall("con", 2, 1, 2, 0),
-            new FaceCall("lives", 2), new FaceCall("count", 0), new FaceCall("count", 1), new FaceCall("count", 2),
+            new FaceCall("meets", 4, 5), new FaceCall("sort"), new FaceCall("lives", 2),
+            new FaceCall("con", 2, 1, 2, 0), new FaceCall("lives", 2), new FaceCall("count", 0), new FaceCall("count", 1), new FaceCall("count", 2),
             new FaceCall("count", 3), new FaceCall("count", 5));
     }
 
