@@ -538,14 +538,16 @@ final class TermsTest {
 
     private static List<FaceCall> aLongRun() {
         return List.of(new FaceCall("sort"), new FaceCall("con", 1, 0, 0, 0), new FaceCall("con", 1, 2, 0, 1),
-            new FaceCall("any", 0), new FaceCall("any", 1), new FaceCall("number", 5), new FaceCall("made", 0, 0, 0),
-            new FaceCall("made", 1, 2, 3), new FaceCall("made", 1, 0, 4), new FaceCall("clause", 2),
-            new FaceCall("clause", 0), new FaceCall("clause", 2), new FaceCall("count", 4), new FaceCall("begin", 1),
-            new FaceCall("clause", 5), new FaceCall("clause", 4), new FaceCall("open"), new FaceCall("clause", 1),
-            new FaceCall("open"), new FaceCall("takes", 1), new FaceCall("count", 4), new FaceCall("covers", 1, 5),
+            new FaceCall("any", 0), new FaceCall("any", 1), new FaceCall("number", 5),
+            new FaceCall("made", 0, 0, 0), new FaceCall("made", 1, 2, 3), new FaceCall("made", 1, 0, 4),
+            new FaceCall("clause", 2), new FaceCall("clause", 0), new FaceCall("clause", 2),
+            new FaceCall("count", 4), new FaceCall("begin", 1), new FaceCall("clause", 5),
+            new FaceCall("clause", 4), new FaceCall("open"), new FaceCall("clause", 1), new FaceCall("open"),
+            new FaceCall("takes", 1), new FaceCall("count", 4), new FaceCall("covers", 1, 5),
             new FaceCall("meets", 4, 5), new FaceCall("sort"), new FaceCall("lives", 2),
-            new FaceCall("con", 2, 1, 2, 0), new FaceCall("lives", 2), new FaceCall("count", 0), new FaceCall("count", 1), new FaceCall("count", 2),
-            new FaceCall("count", 3), new FaceCall("count", 5));
+            new FaceCall("con", 2, 1, 2, 0), new FaceCall("lives", 2), new FaceCall("count", 0),
+            new FaceCall("count", 1), new FaceCall("count", 2), new FaceCall("count", 3),
+            new FaceCall("count", 5));
     }
 
     @Sentence("All memory is the class's own rows")
