@@ -2,8 +2,8 @@ import java.util.ArrayList;
 import java.util.List;
 
 /**
- * A refused call changes nothing: all that can follow it is made on an object with that call and on
- * one without it, as far as an object's calls reach, and the same answers are due.
+ * A refused call changes nothing: a long run of calls of every kind is made behind it on an object
+ * with that call and on one without it, as far as an object's calls reach, and the same answers are due.
  */
 final class Later {
     private final FaceCall refused;
