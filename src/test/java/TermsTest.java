@@ -82,6 +82,24 @@ final class TermsTest {
         run.bad("made", -1, any, -1);
     }
 
+    @Sentence("each of one SORT")
+    static void aConIsOfNoOtherSortThanItsOwn() {
+        Run run = new Run();
+        run.sorts(11);
+        for (int s = 1; s <= 11; s++) {
+            run.due(s - 1, "con", s, 0, 0, 0);
+            run.due(s + 1, "count", 5);
+            run.due(s - 1, "made", s - 1, -1, -1);
+        }
+        for (int s = 1; s <= 11; s++) {
+            run.get("begin", s);
+            run.bad("clause", s % 11);
+            run.bad("covers", s - 1, s % 11);
+            run.yes("clause", s - 1);
+            run.no("open");
+        }
+    }
+
     @Sentence("with 0 to 2 PARTS of told SORTS")
     static void minusOneAndThreeAreBad() {
         Run run = new Run();
@@ -124,6 +142,45 @@ final class TermsTest {
         run.yes("clause", run.get("made", pair, any, any));
         run.yes("clause", run.get("made", quad, run.get("any", 1), run.get("any", 1)));
         run.no("open");
+    }
+
+    @Sentence("of others: trees: a CON of that SORT on top")
+    static void eachLivingConOfThatSortAndNoOtherIsOnTop() {
+        Run run = new Run();
+        run.sorts(3);
+        int one = run.get("made", run.get("con", 1, 0, 0, 0), -1, -1);
+        run.get("con", 2, 0, 0, 0);
+        int two = run.get("made", run.get("con", 1, 1, 0, 0), run.get("any", 0), -1);
+        run.get("con", 1, 1, 3, 0);
+        run.get("con", 2, 1, 1, 0);
+        run.get("begin", 1);
+        run.yes("clause", one);
+        run.yes("open");
+        run.yes("clause", two);
+        run.no("open");
+        run.get("con", 2, 0, 0, 0);
+        run.no("open");
+        run.get("con", 1, 0, 0, 0);
+        run.yes("open");
+    }
+
+    @Sentence("VALUES of its PARTS' SORTS below")
+    static void eachPartHasTheValuesOfItsOwnSort() {
+        Run run = new Run();
+        run.sorts(3);
+        int no = run.get("made", run.get("con", 1, 0, 0, 0), -1, -1);
+        int yes = run.get("made", run.get("con", 1, 0, 0, 0), -1, -1);
+        int only = run.get("made", run.get("con", 2, 0, 0, 0), -1, -1);
+        int pair = run.get("con", 3, 2, 1, 2);
+        run.get("begin", 3);
+        run.yes("clause", run.get("made", pair, no, only));
+        run.no("clause", run.get("made", pair, no, run.get("any", 2)));
+        run.yes("open");
+        run.yes("clause", run.get("made", pair, yes, only));
+        run.no("open");
+        run.get("con", 2, 1, 1, 0);
+        run.yes("open");
+        run.yes("takes", 1);
     }
 
     @Sentence("(trees may be endless)")
@@ -221,6 +278,28 @@ final class TermsTest {
         run.no("meets", most, minusOne);
     }
 
+    @Sentence("or a CON with PATTERNS of its PARTS' SORTS")
+    static void eachKindOfPatternInEachPartAndNoneOfAnotherSort() {
+        Run run = new Run();
+        run.sorts(2);
+        int leaf = run.get("con", 1, 0, 0, 0);
+        int numberTree = run.get("con", 2, 2, 0, 1);
+        int treeNumber = run.get("con", 2, 2, 1, 0);
+        int[] numbers = {run.get("any", 0), run.get("number", 5)};
+        int[] trees = {run.get("any", 1), run.get("made", leaf, -1, -1)};
+        int made = 4;
+        for (int number : numbers) {
+            for (int tree : trees) {
+                run.due(made++, "made", numberTree, number, tree);
+                run.due(made++, "made", treeNumber, tree, number);
+                run.bad("made", numberTree, tree, number);
+                run.bad("made", treeNumber, number, tree);
+                run.bad("made", numberTree, number, 4);
+                run.bad("made", treeNumber, 4, number);
+            }
+        }
+    }
+
     @Sentence("(VALUES with that CON on top whose PARTS fit these)")
     static void anotherConOrAnotherPartDoesNotFit() {
         Run run = new Run();
@@ -253,7 +332,7 @@ final class TermsTest {
         run.get("made", pair, eleven, any);
     }
 
-    @Sentence("at most 8 PATTERNS")
+    @Sentence("CLAUSES: at most 8 PATTERNS")
     static void eightAnysAndNoNinth() {
         Run run = new Run();
         int any = run.get("any", 0);
@@ -264,7 +343,7 @@ final class TermsTest {
         run.due(8, "count", 3);
     }
 
-    @Sentence("of one SORT")
+    @Sentence("PATTERNS of one SORT")
     static void noneOfAnotherWhateverIsThere() {
         Run run = new Run();
         run.get("sort");
@@ -368,6 +447,25 @@ final class TermsTest {
         run.no("open");
     }
 
+    @Sentence("one behind another")
+    static void theirNumbersAreInTheOrderOfTheCalls() {
+        Run run = new Run();
+        int any = run.get("any", 0);
+        for (int v = 0; v < 8; v++) {
+            run.get("number", v);
+        }
+        for (int place = 0; place < 8; place++) {
+            run.get("begin", 0);
+            for (int k = 0; k < 8; k++) {
+                run.get("clause", k == place ? any : 1 + k);
+            }
+            for (int k = 0; k < 8; k++) {
+                run.due(k <= place ? 1 : 0, "takes", k);
+            }
+            run.due(place + 1, "count", 4);
+        }
+    }
+
     @Sentence("A VALUE is TAKEN by the first one that it fits")
     static void theSecondOneHasWhatTheFirstLeaves() {
         Run run = new Run();
@@ -388,7 +486,7 @@ final class TermsTest {
         run.no("takes", 2);
     }
 
-    @Sentence("no such SORT, CON, PATTERN")
+    @Sentence("\"Bad\" is IllegalArgumentException: no such SORT, CON, PATTERN")
     static void eachArgumentOfEachCall() {
         Run run = new Run();
         run.get("sort");
@@ -433,6 +531,40 @@ final class TermsTest {
         run.bad("covers", tree, number);
         run.bad("meets", number, tree);
         run.bad("meets", tree, number);
+    }
+
+    @Sentence("FULL is IndexOutOfBoundsException: too many")
+    static void oneMoreThanTheMostOfEach() {
+        Run run = new Run();
+        run.sorts(11);
+        run.full("sort");
+        int link = run.get("con", 1, 1, 1, 0);
+        for (int c = 1; c < 30; c++) {
+            run.get("con", 1, 0, 0, 0);
+        }
+        run.full("con", 1, 0, 0, 0);
+        int any = run.get("any", 1);
+        int twelve = run.chain(link, 12, any);
+        run.full("made", link, twelve, -1);
+        run.get("begin", 1);
+        for (int k = 0; k < 3; k++) {
+            run.get("clause", twelve);
+        }
+        run.full("clause", twelve);
+        for (int k = 3; k < 8; k++) {
+            run.get("clause", any);
+        }
+        run.full("clause", any);
+        for (int p = 13; p < 200; p++) {
+            run.get("any", 0);
+        }
+        run.full("any", 0);
+        run.full("number", 0);
+        run.full("made", link, any, -1);
+        int[] due = {12, 30, 200, 8, 2, 2};
+        for (int what = 0; what < due.length; what++) {
+            run.due(due[what], "count", what);
+        }
     }
 
     @Sentence("In this order")

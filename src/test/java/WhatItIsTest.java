@@ -1,7 +1,34 @@
-/** "What it is": how many calls an object is used for. */
+/** "What it is": what the answers tell of a choice by cases, and how many calls an object is used for. */
 final class WhatItIsTest {
     public static void main(String[] args) {
         Sentences.run(WhatItIsTest.class);
+    }
+
+    @Sentence("Clauses of patterns, as a choice by cases has them: which ones can ever be reached,"
+        + " and whether a value is left that none of them takes.")
+    static void aChoiceByCasesOverTwoLists() {
+        Run run = new Run();
+        run.sorts(2);
+        int end = run.get("made", run.get("con", 1, 0, 0, 0), -1, -1);
+        int link = run.get("con", 1, 2, 0, 1);
+        int two = run.get("con", 2, 2, 1, 1);
+        int list = run.get("any", 1);
+        int some = run.get("made", link, run.get("any", 0), list);
+        int[] cases = {
+            run.get("made", two, end, list), run.get("made", two, list, end), run.get("made", two, end, end),
+            run.get("made", two, some, some), run.get("any", 2)};
+        int[] reached = {1, 1, 0, 1, 0};
+        int[] left = {1, 1, 1, 0, 0};
+        run.get("begin", 2);
+        run.yes("open");
+        for (int k = 0; k < cases.length; k++) {
+            run.due(reached[k], "clause", cases[k]);
+            run.due(left[k], "open");
+        }
+        for (int k = 0; k < cases.length; k++) {
+            run.due(reached[k], "takes", k);
+        }
+        run.due(3, "count", 4);
     }
 
     /** SORT 1 with an end (CON 0) and links (CON 1), both as PATTERNS (2 and 3), and one CLAUSE, the end. */
