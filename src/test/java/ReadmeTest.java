@@ -68,8 +68,10 @@ final class ReadmeTest {
         for (String line : Document.lines(FILE)) {
             String[] cells = line.split(" \\| ");
             if (cells.length == 4 && cells[0].startsWith("| `")) {
-                String thrown = told(cells[2], "IllegalArgumentException") + told(cells[3], "IndexOutOfBoundsException");
-                lines.add(cells[0].substring(3, cells[0].length() - 1) + thrown.replaceFirst(",", " throws"));
+                String call = cells[0].substring("| `".length(), cells[0].length() - 1);
+                String bad = told(cells[2], "IllegalArgumentException");
+                String full = told(cells[3], "IndexOutOfBoundsException");
+                lines.add(call + (bad + full).replaceFirst(",", " throws"));
             }
         }
         List<String> due = Document.face();
